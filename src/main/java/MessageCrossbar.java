@@ -35,12 +35,13 @@ public final class MessageCrossbar {
     /** A power of two, so that a mask finds the place of the latest jobs. */
     private static final int LOG_LENGTH = 32;
 
-    /** Where each port's addresses end; the widths as powers of two (4, 1, 8, 8); the delays. */
+    /** Where the addresses of each port end. */
     private static final int[] ENDS = {256, 512, 640, 1024};
+    /** The widths 4, 1, 8, 8 as powers of two: sizes are powers too, so a shift divides. */
     private static final int[] WIDTH_POWERS = {2, 0, 3, 3};
     private static final int[] DELAYS = {2, 1, 3, 1};
 
-    /** What is counted, by the numbers of promise 12. */
+    /** Places in the row of counts: the numbers of promise 12. */
     private static final int TICKS = 0;
     private static final int TOLD = 1;
     private static final int LEFT = 2;
@@ -306,7 +307,6 @@ public final class MessageCrossbar {
         ports[p].ticksLeft = DELAYS[p] + Math.max(1, messages[key].size() >> WIDTH_POWERS[p]);
     }
 
-    /** From now on the message's data are those of its answer. */
     private void carryOut(Message message) {
         long answer = 0;
         if (!message.isDenied()) {
@@ -438,6 +438,7 @@ public final class MessageCrossbar {
         int sort;
         int z;
         int address;
+        /** What is to be written; once the job is done, what the answer tells. */
         long data;
         int mask;
 
@@ -471,6 +472,7 @@ public final class MessageCrossbar {
         final Line box;
         int inFlight;
         boolean accepts;
+        /** The port that gave it an answer latest; at first the last one, so that turns begin with 0. */
         int latestPort;
 
         Master() {
@@ -497,6 +499,7 @@ public final class MessageCrossbar {
         int job;
         int ticksLeft;
         int jobsDone;
+        /** The master that gave it a request latest; at first the last one, as with ports. */
         int latestMaster;
 
         Port() {
