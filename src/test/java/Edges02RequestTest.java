@@ -24,8 +24,9 @@ public final class Edges02RequestTest {
         return x.request(a[0], a[1], a[2], a[3], a[4], 0, a[5]);
     }
 
+    /** At address 0, which is a multiple of any size, so that a wrong z is wrong by itself. */
     private static int[] plainBut(int argument, int value) {
-        int[] a = {1, 3, 1, 0, 8, 5};
+        int[] a = {1, 3, 1, 0, 0, 5};
         a[argument] = value;
         return a;
     }
